@@ -13,7 +13,7 @@ public final class StampWorks {
     private static final int SLUICE_FIRST = 5;
     private static final int SLUICE_WATER = 40;
 
-    private static final int LOAD_OF_WHEEL = 20;
+    private static final int LOAD_OF_BARE_WHEEL = 20;
     private static final int LOAD_PART = 4;
     private static final int TURNS_OF_WATER = 10;
 
@@ -144,7 +144,7 @@ public final class StampWorks {
         if (what < 0 || what >= BOX_WHATS) {
             throw new IndexOutOfBoundsException("a box tells 0 to 11");
         }
-        return asked.tell(what);
+        return asked.tellOfBox(what);
     }
 
     // ---- ore
@@ -172,7 +172,7 @@ public final class StampWorks {
         if (what < 0 || what >= LOT_WHATS) {
             throw new IndexOutOfBoundsException("a lot tells 0 to 2");
         }
-        return works.hopper.lotAt(index).tell(what);
+        return works.hopper.lotAt(index).tellOfLot(what);
     }
 
     // ---- hours
@@ -187,7 +187,7 @@ public final class StampWorks {
         if (what < 0 || what >= COUNT_WHATS) {
             throw new IndexOutOfBoundsException("the works tell 0 to 13");
         }
-        return works.tell(what);
+        return works.tellOfWorks(what);
     }
 
     public int buddle(int buddle, int what) throws IndexOutOfBoundsException {
@@ -195,7 +195,7 @@ public final class StampWorks {
         if (what < 0 || what >= BUDDLE_WHATS) {
             throw new IndexOutOfBoundsException("a buddle tells 0 to 2");
         }
-        return asked.tell(what);
+        return asked.tellOfOre(what);
     }
 
     // ---- washing and smelting
@@ -237,7 +237,7 @@ public final class StampWorks {
             throw new IndexOutOfBoundsException("what is foreseen is 0 to 4");
         }
         refuseLateHour(hours);
-        trial.becomeLike(works);
+        trial.copyWorks(works);
         int turns = trial.passHours(hours);
         switch (what) {
             case 0:
@@ -249,7 +249,7 @@ public final class StampWorks {
             case 3:
                 return trial.slime - works.slime;
             default:
-                return trial.hopper.whole();
+                return trial.hopper.oreOfLots();
         }
     }
 
@@ -259,7 +259,7 @@ public final class StampWorks {
         int best = 0;
         int mostTin = -1;
         for (int sluice = 0; sluice <= SLUICE_MOST; sluice++) {
-            trial.becomeLike(works);
+            trial.copyWorks(works);
             trial.sluice = sluice;
             trial.passHours(hours);
             int tin = trial.tinOfBuddles();
@@ -303,7 +303,7 @@ public final class StampWorks {
     public long digest() {
         long sum = DIGEST_FIRST;
         for (int what = 0; what < COUNT_WHATS; what++) {
-            sum = join(sum, works.tell(what));
+            sum = join(sum, works.tellOfWorks(what));
         }
         for (int hour = 0; hour < TABLE_HOURS; hour++) {
             sum = join(sum, works.inflow[hour]);
@@ -361,7 +361,7 @@ public final class StampWorks {
     private static long joinBox(long before, Box box) {
         long sum = before;
         for (int what = 0; what < BOX_WHATS; what++) {
-            sum = join(sum, box.tell(what));
+            sum = join(sum, box.tellOfBox(what));
         }
         for (int i = 0; i < box.stampCount; i++) {
             sum = join(sum, box.stamps[i].weight);
@@ -374,7 +374,7 @@ public final class StampWorks {
     private static long joinLot(long before, Lot lot) {
         long sum = before;
         for (int what = 0; what < LOT_WHATS; what++) {
-            sum = join(sum, lot.tell(what));
+            sum = join(sum, lot.tellOfLot(what));
         }
         return sum;
     }
@@ -382,7 +382,7 @@ public final class StampWorks {
     private static long joinBuddle(long before, Ore buddle) {
         long sum = before;
         for (int what = 0; what < BUDDLE_WHATS; what++) {
-            sum = join(sum, buddle.tell(what));
+            sum = join(sum, buddle.tellOfOre(what));
         }
         return sum;
     }
@@ -413,7 +413,7 @@ public final class StampWorks {
             return rock + tin;
         }
 
-        int tell(int what) {
+        int tellOfOre(int what) {
             switch (what) {
                 case 0:
                     return rock;
@@ -434,7 +434,7 @@ public final class StampWorks {
             tin = newTin;
         }
 
-        void becomeLike(Ore other) {
+        void copyOre(Ore other) {
             become(other.rock, other.tin);
         }
 
@@ -460,12 +460,12 @@ public final class StampWorks {
             ore = new Ore();
         }
 
-        int tell(int what) {
-            return what == 2 ? hardness : ore.tell(what);
+        int tellOfLot(int what) {
+            return what == 2 ? hardness : ore.tellOfOre(what);
         }
 
-        void becomeLike(Lot other) {
-            ore.becomeLike(other.ore);
+        void copyLot(Lot other) {
+            ore.copyOre(other.ore);
             hardness = other.hardness;
         }
     }
@@ -499,7 +499,7 @@ public final class StampWorks {
             count--;
         }
 
-        int whole() {
+        int oreOfLots() {
             int all = 0;
             for (int i = 0; i < count; i++) {
                 all += lotAt(i).ore.whole();
@@ -522,11 +522,11 @@ public final class StampWorks {
             return hardness;
         }
 
-        void becomeLike(Hopper other) {
+        void copyHopper(Hopper other) {
             first = other.first;
             count = other.count;
             for (int i = 0; i < count; i++) {
-                lotAt(i).becomeLike(other.lotAt(i));
+                lotAt(i).copyLot(other.lotAt(i));
             }
         }
     }
@@ -537,11 +537,11 @@ public final class StampWorks {
         int cams;
         int wear;
 
-        int load() {
+        int loadOfStamp() {
             return weight * cams / LOAD_PART;
         }
 
-        int forceAt(int turns) {
+        int forceOfStamp(int turns) {
             return weight * cams * turns * (WHOLE_STAMP - wear) / FORCE_PART;
         }
 
@@ -549,7 +549,7 @@ public final class StampWorks {
             wear = Math.min(WEAR_MOST, wear + turns / WEAR_TURNS);
         }
 
-        void becomeLike(Stamp other) {
+        void copyStamp(Stamp other) {
             weight = other.weight;
             cams = other.cams;
             wear = other.wear;
@@ -587,7 +587,7 @@ public final class StampWorks {
             stampCount++;
         }
 
-        int tell(int what) {
+        int tellOfBox(int what) {
             switch (what) {
                 case 0:
                     return stampCount;
@@ -631,7 +631,7 @@ public final class StampWorks {
         int loadOfStamps() {
             int all = 0;
             for (int i = 0; i < stampCount; i++) {
-                all += stamps[i].load();
+                all += stamps[i].loadOfStamp();
             }
             return all;
         }
@@ -639,7 +639,7 @@ public final class StampWorks {
         int forceOfStamps(int turns) {
             int all = 0;
             for (int i = 0; i < stampCount; i++) {
-                all += stamps[i].forceAt(turns);
+                all += stamps[i].forceOfStamp(turns);
             }
             return all;
         }
@@ -668,14 +668,14 @@ public final class StampWorks {
             }
         }
 
-        void becomeLike(Box other) {
+        void copyBox(Box other) {
             stampCount = other.stampCount;
             for (int i = 0; i < stampCount; i++) {
-                stamps[i].becomeLike(other.stamps[i]);
+                stamps[i].copyStamp(other.stamps[i]);
             }
-            lumps.becomeLike(other.lumps);
-            grit.becomeLike(other.grit);
-            sand.becomeLike(other.sand);
+            lumps.copyOre(other.lumps);
+            grit.copyOre(other.grit);
+            sand.copyOre(other.sand);
             feed = other.feed;
             buddle = other.buddle;
             hardness = other.hardness;
@@ -718,7 +718,7 @@ public final class StampWorks {
             sluice = SLUICE_FIRST;
         }
 
-        int tell(int what) {
+        int tellOfWorks(int what) {
             switch (what) {
                 case 0:
                     return hour;
@@ -731,9 +731,9 @@ public final class StampWorks {
                 case 4:
                     return hopper.count;
                 case 5:
-                    return hopper.whole();
+                    return hopper.oreOfLots();
                 case 6:
-                    return load();
+                    return loadOfWheel();
                 case 7:
                     return store.rock;
                 case 8:
@@ -751,8 +751,8 @@ public final class StampWorks {
             }
         }
 
-        int load() {
-            int all = LOAD_OF_WHEEL;
+        int loadOfWheel() {
+            int all = LOAD_OF_BARE_WHEEL;
             for (int i = 0; i < boxCount; i++) {
                 all += boxes[i].loadOfStamps();
             }
@@ -786,7 +786,7 @@ public final class StampWorks {
 
         int passHour() {
             int taken = takeWater();
-            int turns = taken * TURNS_OF_WATER / Math.max(1, load());
+            int turns = taken * TURNS_OF_WATER / Math.max(1, loadOfWheel());
             for (int i = 0; i < boxCount; i++) {
                 workBox(boxes[i], taken, turns);
             }
@@ -840,15 +840,15 @@ public final class StampWorks {
         }
 
         /** Takes over what hours look at or change; store, tails and metal they leave alone. */
-        void becomeLike(Works other) {
+        void copyWorks(Works other) {
             System.arraycopy(other.inflow, 0, inflow, 0, TABLE_HOURS);
             boxCount = other.boxCount;
             for (int i = 0; i < boxCount; i++) {
-                boxes[i].becomeLike(other.boxes[i]);
+                boxes[i].copyBox(other.boxes[i]);
             }
-            hopper.becomeLike(other.hopper);
+            hopper.copyHopper(other.hopper);
             for (int i = 0; i < BUDDLES; i++) {
-                buddles[i].becomeLike(other.buddles[i]);
+                buddles[i].copyOre(other.buddles[i]);
             }
             hour = other.hour;
             pond = other.pond;

@@ -20,9 +20,11 @@ public final class PromisesTest {
         run();
         runWater();
         runFeed();
+        runBlow();
         runSlime();
         runGrate();
         runWear();
+        runAllStamps();
         count();
         buddle();
         wash();
@@ -30,6 +32,7 @@ public final class PromisesTest {
         again();
         smelt();
         foresee();
+        foreseeAsRun();
         advise();
         bestWater();
         share();
@@ -379,6 +382,44 @@ public final class PromisesTest {
         due("count(4)", works.count(4), 0);
         works.run(1);
         due("box(0, 3) with nothing in the hopper", works.box(0, 3), 7);
+
+        StampWorks many = new StampWorks();
+        many.addBox();
+        many.setBox(0, 300, 0);
+        for (int i = 0; i < 30; i++) {
+            many.bring(10, 100, 1 + i % 9);
+        }
+        many.run(1);
+        boxTells(many, 0, 0, 300, 0, 3, 270, 0, 0, 30, 0, 0, 0, 0);
+        due("count(4)", many.count(4), 0);
+        due("bring(5, 0, 2) to the emptied hopper", many.bring(5, 0, 2), 1);
+        lotTells(many, 0, 5, 0, 2);
+    }
+
+    private static void runBlow() {
+        StampWorks hard = new StampWorks();
+        hard.addBox();
+        hard.hang(0, 40, 3);
+        hard.setBox(0, 300, 1);
+        hard.bring(1000, 120, 9);
+        due("run(1)", hard.run(1), 40);
+        // The force 480 breaks 53 (480 / 9) of the lumps, and 26 (480 / 18) of these once more.
+        boxTells(hard, 0, 1, 300, 1, 9, 217, 23, 0, 30, 4, 0, 0, 480);
+        buddleTells(hard, 1, 24, 1, 40);
+
+        StampWorks two = new StampWorks();
+        two.addBox();
+        two.addBox();
+        two.hang(0, 40, 3);
+        two.hang(0, 60, 4);
+        due("run(1)", two.run(1), 18);
+        due("box(0, 11), 216 and 432", two.box(0, 11), 648);
+        due("box(1, 11), without a stamp", two.box(1, 11), 0);
+        two.setSluice(0);
+        two.setBox(1, 10, 0);
+        two.bring(60, 1000, 3);
+        two.run(1);
+        due("count(13), 50 and 10", two.count(13), 60);
     }
 
     private static void runSlime() {
@@ -448,6 +489,15 @@ public final class PromisesTest {
         due("box(0, 10) at 100", works.box(0, 10), 90);
         due("box(0, 11) at 100", works.box(0, 11), 160);
 
+        StampWorks two = new StampWorks();
+        two.setSluice(20);
+        two.addBox();
+        two.hang(0, 10, 1);
+        two.run(1);
+        two.hang(0, 10, 1);
+        two.run(2);
+        due("box(0, 10) of the wear 3 and 2", two.box(0, 10), 5);
+
         StampWorks spared = new StampWorks();
         spared.setSluice(20);
         spared.addBox();
@@ -456,6 +506,25 @@ public final class PromisesTest {
         due("box(0, 10) of less than 200 turns", spared.box(0, 10), 0);
         spared.run(1);
         due("box(0, 10), still", spared.box(0, 10), 0);
+    }
+
+    private static void runAllStamps() {
+        StampWorks works = new StampWorks();
+        for (int box = 0; box < 4; box++) {
+            works.addBox();
+            for (int stamp = 0; stamp < 4; stamp++) {
+                works.hang(box, 60, 4);
+            }
+        }
+        works.bring(200, 0, 1);
+        works.setSluice(20);
+        due("count(6)", works.count(6), 980);
+        due("run(1)", works.run(1), 8);
+        for (int box = 0; box < 4; box++) {
+            due("box(" + box + ", 11)", works.box(box, 11), 768);
+            due("box(" + box + ", 10)", works.box(box, 10), 0);
+        }
+        due("buddle(0, 0)", works.buddle(0, 0), 200);
     }
 
     // ---- promise 12
@@ -604,6 +673,37 @@ public final class PromisesTest {
         CHECKS.refused(works, "foresee(101, 0)", ARGUMENT, () -> works.foresee(101, 0));
         CHECKS.refused(works, "foresee(1, -1)", INDEX, () -> works.foresee(1, -1));
         CHECKS.refused(works, "foresee(1, 5)", INDEX, () -> works.foresee(1, 5));
+    }
+
+    /** What is foreseen of works in the midst of all is what comes. */
+    private static void foreseeAsRun() {
+        StampWorks works = new StampWorks();
+        inflowAlways(works, 300);
+        works.setSluice(20);
+        works.addBox();
+        works.addBox();
+        works.hang(0, 40, 1);
+        works.hang(1, 20, 1);
+        works.setBox(0, 300, 2);
+        works.setBox(1, 90, 2);
+        works.bring(40, 500, 3);
+        works.bring(5000, 700, 8);
+        works.run(9);
+        works.setSluice(17);
+        int[] told = new int[5];
+        for (int what = 0; what < 5; what++) {
+            told[what] = works.foresee(10, what);
+        }
+        long tin = works.buddle(2, 1);
+        long slime = works.count(9);
+        due("foresee(10, 0)", told[0], works.run(10));
+        due("foresee(10, 1)", told[1], works.count(1));
+        due("foresee(10, 2)", told[2], works.buddle(2, 1));
+        due("foresee(10, 3)", told[3], works.count(9) - slime);
+        due("foresee(10, 4)", told[4], works.count(5));
+        CHECKS.due("tin came to the buddle", works.buddle(2, 1) > tin, true);
+        due("foresee(30, 4) without ore", works.foresee(30, 4), 0);
+        due("box(0, 3) is not that of a trial", works.box(0, 3), 8);
     }
 
     // ---- promise 18
