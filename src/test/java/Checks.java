@@ -35,6 +35,10 @@ final class Checks {
         }
     }
 
+    int made() {
+        return made;
+    }
+
     void end() {
         System.out.println(made + " checks, " + wrong + " wrong");
         if (wrong != 0 || made == 0) {

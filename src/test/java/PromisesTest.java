@@ -70,12 +70,6 @@ public final class PromisesTest {
         due("buddle(" + buddle + ", 2)", works.buddle(buddle, 2), grade);
     }
 
-    private static void inflowAlways(StampWorks works, int amount) {
-        for (int hour = 0; hour < 24; hour++) {
-            works.setInflow(hour, amount);
-        }
-    }
-
     /** One box with one stamp of the load 60: it breaks all that comes, if that is soft. */
     private static StampWorks strongWorks() {
         StampWorks works = new StampWorks();
@@ -108,7 +102,7 @@ public final class PromisesTest {
         for (int i = 0; i < 3; i++) {
             works.bring(5000, 0, 1);
         }
-        inflowAlways(works, 900);
+        Scenes.inflowAlways(works, 900);
         works.setSluice(20);
         works.setBox(0, 300, 0);
         works.run(29);
@@ -324,7 +318,7 @@ public final class PromisesTest {
 
     private static void runWater() {
         StampWorks full = new StampWorks();
-        inflowAlways(full, 900);
+        Scenes.inflowAlways(full, 900);
         full.setSluice(0);
         due("run(11) of a shut sluice", full.run(11), 0);
         due("count(1)", full.count(1), 19900);
@@ -335,7 +329,7 @@ public final class PromisesTest {
         due("count(1), filled before it is taken from", full.count(1), 19200);
 
         StampWorks dry = new StampWorks();
-        inflowAlways(dry, 0);
+        Scenes.inflowAlways(dry, 0);
         dry.setSluice(20);
         due("run(12)", dry.run(12), 4800);
         due("run(1) with the last 400", dry.run(1), 200);
@@ -343,7 +337,7 @@ public final class PromisesTest {
         due("run(1) without water", dry.run(1), 0);
 
         StampWorks table = new StampWorks();
-        inflowAlways(table, 0);
+        Scenes.inflowAlways(table, 0);
         table.setInflow(1, 7);
         table.setSluice(0);
         table.run(1);
@@ -442,7 +436,7 @@ public final class PromisesTest {
 
     private static void runGrate() {
         StampWorks works = strongWorks();
-        inflowAlways(works, 900);
+        Scenes.inflowAlways(works, 900);
         works.setSluice(20);
         works.setBox(0, 300, 1);
         works.bring(5000, 0, 1);
@@ -472,7 +466,7 @@ public final class PromisesTest {
 
     private static void runWear() {
         StampWorks works = new StampWorks();
-        inflowAlways(works, 900);
+        Scenes.inflowAlways(works, 900);
         works.setSluice(20);
         works.addBox();
         works.hang(0, 40, 2);
@@ -678,7 +672,7 @@ public final class PromisesTest {
     /** What is foreseen of works in the midst of all is what comes. */
     private static void foreseeAsRun() {
         StampWorks works = new StampWorks();
-        inflowAlways(works, 300);
+        Scenes.inflowAlways(works, 300);
         works.setSluice(20);
         works.addBox();
         works.addBox();
