@@ -1,4 +1,6 @@
 import java.math.BigInteger;
+import java.util.Arrays;
+import java.util.function.Supplier;
 
 /** Boundaries of the promises 17 to 21: looking ahead. */
 public final class AheadBoundariesTest extends Boundaries {
@@ -158,6 +160,33 @@ public final class AheadBoundariesTest extends Boundaries {
         foreseenComes(works, 9);
     }
 
+    static void promise17_fullBuddleBesideTheOneThatIsFilled() {
+        StampWorks works = Scenes.buddleOf(0, 6000);
+        works.setBox(0, 300, 2);
+        works.bring(100, 1000, 1);
+        due("foresee(1, 2)", works.foresee(1, 2), 6090);
+        works.setBox(0, 300, 0);
+        due("foresee(1, 2) of the full buddle", works.foresee(1, 2), 6000);
+    }
+
+    static void promise17_allBoxesStampsAndLots() {
+        foreseenComes(allBoxesStampsAndLots(), 20);
+    }
+
+    private static StampWorks allBoxesStampsAndLots() {
+        StampWorks works = Scenes.taking(800);
+        for (int box = 0; box < 4; box++) {
+            works.addBox();
+            works.setBox(box, 10 + box, box % 3);
+            for (int stamp = 0; stamp < 4; stamp++) {
+                works.hang(box, 10 + stamp, 1);
+            }
+        }
+        Scenes.fillHopper(works, 29);
+        works.bring(900, 800, 3);
+        return works;
+    }
+
     static void promise17_stampIsWornOutMeanwhile() {
         StampWorks works = Scenes.taking(800);
         works.addBox();
@@ -196,16 +225,22 @@ public final class AheadBoundariesTest extends Boundaries {
 
     static void promise18_hours1And48() {
         StampWorks works = Scenes.busy();
-        asked(works, "advise(1)", bestOfAllSluices(1), () -> works.advise(1));
-        asked(works, "advise(48)", bestOfAllSluices(48), () -> works.advise(48));
+        asked(works, "advise(1)", bestOfAllSluices(Scenes::busy, 1), () -> works.advise(1));
+        asked(works, "advise(48)", bestOfAllSluices(Scenes::busy, 48), () -> works.advise(48));
     }
 
-    /** Lets the hours go by in busy works of their own for each sluice. */
-    private static int bestOfAllSluices(int hours) {
+    static void promise18_allBoxesStampsAndLots() {
+        StampWorks works = allBoxesStampsAndLots();
+        int best = bestOfAllSluices(AheadBoundariesTest::allBoxesStampsAndLots, 30);
+        asked(works, "advise(30)", best, () -> works.advise(30));
+    }
+
+    /** Lets the hours go by in works of their own for each sluice. */
+    private static int bestOfAllSluices(Supplier<StampWorks> scene, int hours) {
         int best = -1;
         long most = -1;
         for (int sluice = 0; sluice <= 20; sluice++) {
-            StampWorks works = Scenes.busy();
+            StampWorks works = scene.get();
             works.setSluice(sluice);
             works.run(hours);
             if (tinOfBuddles(works) > most) {
@@ -484,7 +519,7 @@ public final class AheadBoundariesTest extends Boundaries {
 
     private static int[] inflowOf(int amount) {
         int[] inflow = new int[24];
-        java.util.Arrays.fill(inflow, amount);
+        Arrays.fill(inflow, amount);
         return inflow;
     }
 

@@ -1,8 +1,9 @@
 import java.util.Random;
 
-/** Long runs of calls, each answered by the class as by PlainWorks, and the digest after each too. */
+/** Long runs of calls, each answered by the class as by PlainWorks; in half of them a digest follows each. */
 public final class ModelTest {
     private static final int RUNS = 1500;
+    // What an object is good for; a digest is one of them.
     private static final int CALLS = 512;
     private static final int[] WRONG = {-1, Integer.MIN_VALUE, Integer.MAX_VALUE, -100, 1 << 30, 6000};
 
@@ -14,6 +15,8 @@ public final class ModelTest {
     // How one run differs from another: how often arguments are wrong, and how long hours go by.
     private final int wrongOf100;
     private final int hoursMost;
+    private final boolean digestAfterEach;
+    private int calls = 0;
 
     private ModelTest(Checks checks, int number) {
         this.checks = checks;
@@ -21,15 +24,17 @@ public final class ModelTest {
         random = new Random(number);
         wrongOf100 = number % 4 == 0 ? 15 : 1;
         hoursMost = number % 3 == 0 ? 100 : 1 + number % 12;
+        digestAfterEach = number % 2 == 0;
     }
 
     public static void main(String[] args) {
         Checks checks = new Checks();
         for (int number = 0; number < RUNS; number++) {
             ModelTest test = new ModelTest(checks, number);
-            for (int i = 0; i < CALLS; i++) {
+            while (test.calls + 2 < CALLS) {
                 test.call();
             }
+            test.sameDigest("the run");
         }
         checks.end();
     }
@@ -45,7 +50,15 @@ public final class ModelTest {
     }
 
     private void same(String call, Checks.Call made, Checks.Call due) {
+        calls++;
         checks.due(run + call, Checks.answer(made), Checks.answer(due));
+        if (digestAfterEach) {
+            sameDigest(call);
+        }
+    }
+
+    private void sameDigest(String call) {
+        calls++;
         checks.due(run + "digest() after " + call, works.digest(), plain.digest());
     }
 

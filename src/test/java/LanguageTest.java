@@ -1,0 +1,100 @@
+import java.io.IOException;
+import java.lang.reflect.Executable;
+import java.lang.reflect.Field;
+import java.lang.reflect.Method;
+import java.lang.reflect.Modifier;
+import java.nio.file.Files;
+import java.nio.file.Path;
+import java.util.ArrayList;
+import java.util.Arrays;
+import java.util.HashSet;
+import java.util.List;
+import java.util.Set;
+import java.util.regex.Matcher;
+import java.util.regex.Pattern;
+
+/** Those rules of ../shared/LANGUAGE.md that can be told from words of the source and from its classes. */
+public final class LanguageTest {
+    private static final Path SOURCE = Path.of("src/main/java/StampWorks.java");
+    private static final Pattern COMMENT_OR_TEXT = Pattern.compile("/\\*.*?\\*/|//[^\\n]*|\"[^\"\\n]*\"", Pattern.DOTALL);
+    // Some of these the rules allow in their place; the class does without them.
+    private static final String[] NEVER = {
+        "\\b(package|import|finally|synchronized|assert|volatile|native|instanceof|catch|try)\\b",
+        "->", "::", "\\bstatic\\s*\\{", "Exact\\s*\\(",
+        "\\b(equals|hashCode|toString|getMessage|currentTimeMillis|nanoTime|random)\\s*\\(",
+    };
+    // The class uses no more of the library than these.
+    private static final Set<String> LIBRARY = Set.of("Math.min", "Math.max", "Math.floorMod", "System.arraycopy");
+    private static final Set<Class<?>> CONSTANTS = Set.of(int.class, long.class);
+
+    private static final Checks CHECKS = new Checks();
+
+    public static void main(String[] args) throws IOException {
+        String code = COMMENT_OR_TEXT.matcher(Files.readString(SOURCE)).replaceAll(" ");
+        for (String never : NEVER) {
+            CHECKS.due("rules 3 to 6: code with " + never, Pattern.compile(never).matcher(code).find(), false);
+        }
+        CHECKS.due("rule 4: library", LIBRARY.containsAll(libraryOf(code)), true);
+        List<Class<?>> classes = new ArrayList<>(Arrays.asList(StampWorks.class.getDeclaredClasses()));
+        CHECKS.due("rule 11: some twelve classes", classes.size() < 12, true);
+        classes.add(StampWorks.class);
+        for (Class<?> type : classes) {
+            fieldsOf(type);
+            methodsOf(type);
+        }
+        lengths();
+        CHECKS.end();
+    }
+
+    private static Set<String> libraryOf(String code) {
+        Set<String> used = new HashSet<>();
+        Matcher matcher = Pattern.compile("\\b[A-Z][a-z]\\w*\\.\\w+").matcher(code);
+        while (matcher.find()) {
+            used.add(matcher.group());
+        }
+        return used;
+    }
+
+    private static void fieldsOf(Class<?> type) {
+        int own = 0;
+        for (Field field : type.getDeclaredFields()) {
+            if (Modifier.isStatic(field.getModifiers())) {
+                boolean constant = Modifier.isFinal(field.getModifiers()) && CONSTANTS.contains(field.getType());
+                CHECKS.due("rule 5: " + field + " is a constant", constant, true);
+            } else {
+                own++;
+            }
+        }
+        CHECKS.due("rule 11: some twenty fields of " + type, own <= 20, true);
+    }
+
+    private static void methodsOf(Class<?> type) {
+        Set<String> face = new HashSet<>();
+        for (Method method : StampWorks.class.getMethods()) {
+            face.add(method.getName());
+        }
+        for (Method method : type.getDeclaredMethods()) {
+            parametersOf(method);
+            if (!Modifier.isPublic(method.getModifiers())) {
+                CHECKS.due("rule 1: " + method + " bears a name of the face", face.contains(method.getName()), false);
+            }
+        }
+    }
+
+    private static void parametersOf(Executable executable) {
+        CHECKS.due("rule 11: seven parameters of " + executable, executable.getParameterCount() <= 7, true);
+    }
+
+    /** A method's head ends with a brace, and the method with a brace indented like its head. */
+    private static void lengths() throws IOException {
+        List<String> lines = Files.readAllLines(SOURCE);
+        Pattern head = Pattern.compile("( {4}| {8})[A-Za-z][^=]*\\).*(?<!;)");
+        for (int i = 0; i < lines.size(); i++) {
+            Matcher matcher = head.matcher(lines.get(i));
+            if (matcher.matches() && !lines.get(i).matches(" +(if|for|while|switch|return|throw)\\b.*")) {
+                int end = lines.subList(i, lines.size()).indexOf(matcher.group(1) + "}");
+                CHECKS.due("rule 11: sixty lines of " + lines.get(i).trim(), end >= 0 && end <= 60, true);
+            }
+        }
+    }
+}
