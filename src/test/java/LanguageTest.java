@@ -8,7 +8,9 @@ import java.nio.file.Path;
 import java.util.ArrayList;
 import java.util.Arrays;
 import java.util.HashSet;
+import java.util.LinkedHashMap;
 import java.util.List;
+import java.util.Map;
 import java.util.Set;
 import java.util.regex.Matcher;
 import java.util.regex.Pattern;
@@ -26,6 +28,11 @@ public final class LanguageTest {
     // The class uses no more of the library than these.
     private static final Set<String> LIBRARY = Set.of("Math.min", "Math.max", "Math.floorMod", "System.arraycopy");
     private static final Set<Class<?>> CONSTANTS = Set.of(int.class, long.class);
+    private static final int CALLS_DEEP = 8;
+    private static final Pattern HEAD = Pattern.compile("( {4}| {8})[A-Za-z][^=]*\\).*(?<!;)");
+    private static final Pattern STATEMENT = Pattern.compile(" +(if|for|while|switch|return|throw)\\b.*");
+    private static final Pattern CALL = Pattern.compile("\\b(\\w+)\\(");
+    private static final Pattern MADE = Pattern.compile("(?<!throw )\\bnew \\w+");
 
     private static final Checks CHECKS = new Checks();
 
@@ -42,7 +49,12 @@ public final class LanguageTest {
             fieldsOf(type);
             methodsOf(type);
         }
-        lengths();
+        Map<String, List<String>> bodies = bodiesOf(code.lines().toList());
+        for (String name : bodies.keySet()) {
+            CHECKS.due("rule 11: sixty lines of " + name, bodies.get(name).size() <= 60, true);
+            CHECKS.due("rule 11: eight calls deep from " + name, depthOf(name, bodies, 1) <= CALLS_DEEP, true);
+            thrownAndMade(name, String.join("\n", bodies.get(name)));
+        }
         CHECKS.end();
     }
 
@@ -85,16 +97,42 @@ public final class LanguageTest {
         CHECKS.due("rule 11: seven parameters of " + executable, executable.getParameterCount() <= 7, true);
     }
 
-    /** A method's head ends with a brace, and the method with a brace indented like its head. */
-    private static void lengths() throws IOException {
-        List<String> lines = Files.readAllLines(SOURCE);
-        Pattern head = Pattern.compile("( {4}| {8})[A-Za-z][^=]*\\).*(?<!;)");
+    /** Methods and constructors by their names: all below the head, which ends with a brace indented like it. */
+    private static Map<String, List<String>> bodiesOf(List<String> lines) {
+        Map<String, List<String>> bodies = new LinkedHashMap<>();
         for (int i = 0; i < lines.size(); i++) {
-            Matcher matcher = head.matcher(lines.get(i));
-            if (matcher.matches() && !lines.get(i).matches(" +(if|for|while|switch|return|throw)\\b.*")) {
-                int end = lines.subList(i, lines.size()).indexOf(matcher.group(1) + "}");
-                CHECKS.due("rule 11: sixty lines of " + lines.get(i).trim(), end >= 0 && end <= 60, true);
+            Matcher head = HEAD.matcher(lines.get(i));
+            Matcher name = CALL.matcher(lines.get(i));
+            if (head.matches() && name.find() && !STATEMENT.matcher(lines.get(i)).matches()) {
+                int length = lines.subList(i, lines.size()).indexOf(head.group(1) + "}");
+                CHECKS.due("end of " + name.group(1), length > 0, true);
+                List<String> body = lines.subList(i + 1, i + Math.max(1, length));
+                CHECKS.due("a name of its own for " + name.group(1), bodies.put(name.group(1), body) == null, true);
             }
+        }
+        CHECKS.due("the face among the bodies", bodies.containsKey("digest"), true);
+        return bodies;
+    }
+
+    /** How many calls stand open at once below this one; what goes round and round is told as too deep. */
+    private static int depthOf(String name, Map<String, List<String>> bodies, int depth) {
+        int deepest = depth;
+        if (depth > CALLS_DEEP || !bodies.containsKey(name)) {
+            return deepest;
+        }
+        Matcher call = CALL.matcher(String.join("\n", bodies.get(name)));
+        while (call.find()) {
+            deepest = Math.max(deepest, depthOf(call.group(1), bodies, depth + 1));
+        }
+        return deepest;
+    }
+
+    /** Constructors make and do not throw; methods make nothing but what they throw. */
+    private static void thrownAndMade(String name, String body) {
+        if (Character.isUpperCase(name.charAt(0))) {
+            CHECKS.due("rule 6: a throw in the constructor " + name, body.contains("throw "), false);
+        } else {
+            CHECKS.due("rule 12: something made in " + name, MADE.matcher(body).find(), false);
         }
     }
 }
